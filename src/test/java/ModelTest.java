@@ -32,15 +32,18 @@ public final class ModelTest {
     public static void main(String[] args) {
         int[] reached = new int[9];
         int refuted = 0;
+        int longest = 0;
         for (int run = 0; run < RUNS; run++) {
             ModelTest test = new ModelTest(run);
             test.go(reached);
             refuted += test.x.refuted() ? 1 : 0;
+            longest += test.hasLongest() ? 1 : 0;
         }
         for (int code : new int[] {2, 3, 4, 5, 6, 7, 8}) {
             Check.due("some call answered " + -code, reached[code] > 0, true);
         }
         Check.due("some run was refuted", refuted > 0, true);
+        Check.due("some run came to coefficients of 48 limbs", longest > 0, true);
         Check.end();
     }
 
@@ -67,6 +70,15 @@ public final class ModelTest {
         for (int row = 0; row < x.rowCount(); row++) {
             compareRow(row);
         }
+    }
+
+    private boolean hasLongest() {
+        for (BigInteger[] row : model.rows) {
+            if (Model.limbsOf(row[0]) == 48) {
+                return true;
+            }
+        }
+        return false;
     }
 
     private void feedRow() {
@@ -199,9 +211,20 @@ public final class ModelTest {
     }
 
     private int addOnce() {
-        BigInteger times = drawNumber(20);
+        int row = drawRow();
+        BigInteger times = draw.below(3) == 0 ? drawUpToTheTop(row) : drawNumber(20);
         feed(draw.below(5) == 0 ? times : times.abs());
-        return repeatAdd();
+        return answered("combineAdd " + row, x.combineAdd(row), model.combineAdd(row));
+    }
+
+    /** A number that makes the row's longest number about as long as a sum's may be. */
+    private BigInteger drawUpToTheTop(int row) {
+        int longest = 0;
+        for (int entry = 0; row >= 0 && row < x.rowCount() && entry <= model.vars; entry++) {
+            longest = Math.max(longest, Model.limbsOf(model.rows.get(row)[entry]));
+        }
+        int limbs = Math.min(20, Math.max(1, 48 - longest + draw.below(2)));
+        return BigInteger.valueOf(drawLimb()).shiftLeft(31 * (limbs - 1)).add(drawNumber(limbs).abs());
     }
 
     private int repeatAdd() {

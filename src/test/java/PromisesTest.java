@@ -19,6 +19,7 @@ public final class PromisesTest {
         promise9();
         promise10();
         promise10LongDivision();
+        promise10FullSize();
         promise11();
         promise12();
         promise13();
@@ -280,6 +281,8 @@ public final class PromisesTest {
         x.limb(0);
         Check.due("8: below 0 times nothing", x.combineAdd(0), CutRows.OK);
         Check.due("8: refused", Check.add(x, -9, 0), CutRows.NEGATIVE);
+        x.beginNumber(-1);
+        Check.due("8: no limbs behind a number below 0", x.combineAdd(0), CutRows.OK);
         x.combineEnd();
         Check.rowIs("8: the sum", x, 2, -9, 0, -6);
         x.combineStart();
@@ -377,6 +380,12 @@ public final class PromisesTest {
         Check.due("9: too many rows", x.combineEnd(), CutRows.NOROOM);
         Check.due("9: the sum stays begun without a row", x.count(4), 1);
         sumIsKeptWithoutRoom();
+        CutRows first = new CutRows(1, 9, 90);
+        first.sealInput();
+        first.combineStart();
+        Check.due("9: a made row may be the first", first.combineEnd(), 0);
+        Check.due("9: the sum is ended with it", first.count(4), 0);
+        Check.due("9: it is not input", first.count(1), 0);
     }
 
     private static void sumIsKeptWithoutRoom() {
@@ -469,6 +478,10 @@ public final class PromisesTest {
             {{0, most - 1, half}, {most, half}},
             {{0, 0, 0, half, half - 1}, {1, 0, 0, half}},
             {{0, most - 1, 0, half}, {most, 0, half}},
+            {{0, 0, half - 1}, {most, half}},
+            {{0, 0, 0, half - 1}, {most, most, half}},
+            {{0, 0, half}, {most, half}},
+            {{0, 0, most, half}, {0, most, half}},
             {{most, most, most, most}, {most, most}},
             {{0, 0, 0, 1}, {most, most}},
             {{0, 0, 1, 1}, {1, 1}},
@@ -490,6 +503,21 @@ public final class PromisesTest {
             greatestIsDue(number, divisor);
             greatestIsDue(divisor, number);
         }
+        exactMultiplesAreDue(whole(new int[] {most, 0, half}), whole(new int[] {most, most - 1}));
+        exactMultiplesAreDue(whole(new int[] {most, 0, 0, half}), whole(new int[] {most, most, most - 1}));
+        exactMultiplesAreDue(whole(new int[] {most, half}), whole(new int[] {0, most - 3, 1}));
+    }
+
+    /** After a digit that was put back, a wrong limb that is left spoils all that comes behind it. */
+    private static void exactMultiplesAreDue(BigInteger divisor, BigInteger times) {
+        BigInteger number = divisor.multiply(times);
+        quotientIsDue(number, divisor);
+        quotientIsDue(number.negate(), divisor);
+        quotientIsDue(number.add(ONE), divisor);
+        quotientIsDue(number.subtract(ONE), divisor);
+        quotientIsDue(number.add(ONE).negate(), divisor);
+        greatestIsDue(number, divisor);
+        greatestIsDue(divisor, number.add(divisor));
     }
 
     private static BigInteger whole(int[] limbs) {
@@ -521,6 +549,66 @@ public final class PromisesTest {
         BigInteger greatest = a.gcd(b);
         Check.due("10: first of two", Check.number(x, 1, 0), a.divide(greatest));
         Check.due("10: second of two", Check.number(x, 1, 1), b.divide(greatest));
+    }
+
+    /** Rows of 48 limbs; neighbours among Fibonacci's numbers take Euclid's way the most steps. */
+    private static void promise10FullSize() {
+        BigInteger small = ZERO;
+        BigInteger large = ONE;
+        while (large.add(small).bitLength() <= 31 * 48) {
+            BigInteger next = large.add(small);
+            small = large;
+            large = next;
+        }
+        BigInteger most = Check.power(31 * 48).subtract(ONE);
+        dividedFullSizeIsDue(small, large.negate(), most.negate());
+        dividedFullSizeIsDue(most, most.negate(), most.subtract(ONE).negate());
+        dividedFullSizeIsDue(Check.power(31 * 47), Check.power(31 * 46 + 3), most.negate());
+        BigInteger divisor = Check.power(31 * 24).subtract(BigInteger.valueOf(5));
+        BigInteger times = Check.power(31 * 24).subtract(BigInteger.valueOf(77));
+        dividedFullSizeIsDue(divisor.multiply(times), divisor.multiply(times.subtract(ONE)).negate(), most);
+        dividedFullSizeIsDue(divisor, ZERO, divisor.multiply(times).negate());
+        dividedFullSizeIsDue(divisor, divisor.negate(), divisor.multiply(times).add(ONE).negate());
+        dividedFullSizeIsDue(BigInteger.valueOf(6), BigInteger.valueOf(-9), most.negate());
+    }
+
+    private static void dividedFullSizeIsDue(BigInteger a, BigInteger b, BigInteger bound) {
+        CutRows x = new CutRows(2, 20, 4000);
+        int row = longRow(x, a, b, bound);
+        Check.due("10: first as built", Check.number(x, row, 0), a);
+        Check.due("10: second as built", Check.number(x, row, 1), b);
+        Check.due("10: bound as built", Check.number(x, row, 2), bound);
+        BigInteger greatest = a.gcd(b);
+        Check.due("10: new long row", x.divideRound(row), row + 1);
+        Check.due("10: first, long", Check.number(x, row + 1, 0), a.divide(greatest));
+        Check.due("10: second, long", Check.number(x, row + 1, 1), b.divide(greatest));
+        BigInteger floor = bound.subtract(bound.mod(greatest)).divide(greatest);
+        Check.due("10: bound, long", Check.number(x, row + 1, 2), floor);
+    }
+
+    /** Three numbers of up to 48 limbs, put together from pieces of 19 limbs. */
+    private static int longRow(CutRows x, BigInteger... numbers) {
+        int piece = 31 * 19;
+        int width = numbers.length;
+        for (int i = 0; i < width; i++) {
+            long[] unit = new long[width];
+            unit[i] = numbers[i].signum() < 0 ? -1 : 1;
+            Check.input(x, unit);
+        }
+        x.sealInput();
+        Check.feed(x, Check.power(piece));
+        for (int row = 0; row < 2 * width; row++) {
+            x.combineStart();
+            x.combineAdd(row);
+            x.combineEnd();
+        }
+        x.combineStart();
+        for (int row = 0; row < 3 * width; row++) {
+            BigInteger above = numbers[row % width].abs().shiftRight(row / width * piece);
+            Check.feed(x, above.and(Check.power(piece).subtract(ONE)));
+            x.combineAdd(row);
+        }
+        return x.combineEnd();
     }
 
     private static void promise11() {
