@@ -7,15 +7,36 @@ final class Check {
 
     private static int wrong = 0;
     private static int done = 0;
+    private static String heading = null;
 
     private Check() {
+    }
+
+    /** What the answers that follow are about; it is printed if one of them is not as due. */
+    static void under(String newHeading) {
+        heading = newHeading;
+    }
+
+    static void fails(String why) {
+        wrong++;
+        if (heading != null) {
+            System.out.println(heading + ":");
+            heading = null;
+        }
+        System.out.println(why);
     }
 
     static void due(String what, long got, long want) {
         done++;
         if (got != want) {
-            wrong++;
-            System.out.println(what + " answered " + got + ", due is " + want);
+            fails(what + " answered " + got + ", due is " + want);
+        }
+    }
+
+    static void due(String what, String got, String want) {
+        done++;
+        if (!got.equals(want)) {
+            fails(what + " answered " + got + ", due is " + want);
         }
     }
 
@@ -26,29 +47,27 @@ final class Check {
     static void due(String what, BigInteger got, BigInteger want) {
         done++;
         if (!got.equals(want)) {
-            wrong++;
-            System.out.println(what + " answered " + got + ", due is " + want);
+            fails(what + " answered " + got + ", due is " + want);
         }
+    }
+
+    /** Exactly that exception is due, none that is a kind of it. */
+    private static void throwsIllegalArgument(String what, Runnable call) {
+        String thrown = "nothing";
+        try {
+            call.run();
+        } catch (RuntimeException e) {
+            thrown = e.getClass().getSimpleName();
+        }
+        due(what + " throws", thrown, "IllegalArgumentException");
     }
 
     static void cellThrows(CutRows x, int row, int entry, int what) {
-        boolean thrown = false;
-        try {
-            x.cell(row, entry, what);
-        } catch (IllegalArgumentException e) {
-            thrown = true;
-        }
-        due("cell(" + row + ", " + entry + ", " + what + ") throws", thrown, true);
+        throwsIllegalArgument("cell(" + row + ", " + entry + ", " + what + ")", () -> x.cell(row, entry, what));
     }
 
     static void countThrows(CutRows x, int what) {
-        boolean thrown = false;
-        try {
-            x.count(what);
-        } catch (IllegalArgumentException e) {
-            thrown = true;
-        }
-        due("count(" + what + ") throws", thrown, true);
+        throwsIllegalArgument("count(" + what + ")", () -> x.count(what));
     }
 
     /** Leaves the register open. */
@@ -101,6 +120,28 @@ final class Check {
     static void rowIs(String what, CutRows x, int row, long... numbers) {
         for (int entry = 0; entry < numbers.length; entry++) {
             due(what + ", entry " + entry, number(x, row, entry), BigInteger.valueOf(numbers[entry]));
+        }
+    }
+
+    /** Leaves the register open, with these limbs as they are, the lowest first. */
+    static void feedLimbs(CutRows x, int sign, int... limbs) {
+        x.beginNumber(sign);
+        for (int w : limbs) {
+            x.limb(w);
+        }
+    }
+
+    /** A row of zeros but for one entry. */
+    static long[] unit(int width, int entry, long number) {
+        long[] numbers = new long[width];
+        numbers[entry] = number;
+        return numbers;
+    }
+
+    static void moveTo(CutRows x, long... at) {
+        for (int var = 0; var < at.length; var++) {
+            feed(x, at[var]);
+            x.evalPoint(var);
         }
     }
 
