@@ -164,6 +164,7 @@ public final class FeedEdgesTest {
                 x.endConstraint();
                 Check.due("number", Check.number(x, 0, 0), want);
                 Check.due("sign", x.cell(0, 0, -1), want.signum());
+                Check.due("limbs", x.cell(0, 0, -2), Model.limbsOf(want));
             }
         }
     }

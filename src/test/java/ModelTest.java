@@ -1,6 +1,10 @@
 import java.math.BigInteger;
 
-/** Runs of calls drawn by a fixed rule, each answer and the state after it compared with the model. */
+/**
+ * Runs of calls drawn by a fixed rule, each answer and the state after it compared with the model.
+ * With the looks at the state an object has more calls here than the 512 that are promised; this
+ * class goes on to answer as before, which lets a run be looked at more closely.
+ */
 public final class ModelTest {
     private static final int RUNS = 3000;
     private static final int CALLS = 512;

@@ -192,29 +192,35 @@ public final class PointEdgesTest {
         }
     }
 
-    /** What is made follows from input at every whole point, so it could only be a row too many to look at. */
+    /** What is made follows from input, but input does not follow from what is made. */
     @Says(promise = 15, text = "all ROWS of INPUT")
-    static void madeRowsTakeNothingAway() {
+    static void inputIsLookedAtAndNotWhatIsMade() {
         CutRows x = new CutRows(1, 60, 4000);
         Check.input(x, 2, 1);
         Check.input(x, -2, 3);
         x.sealInput();
+        x.combineStart();
+        Check.add(x, 1, 0);
+        Check.add(x, 1, 1);
+        x.combineEnd();
+        Check.rowIs("a row that holds everywhere", x, 2, 0, 4);
+        holdsFromMinusOneToZero("with a sum", x);
         x.divideRound(0);
         x.divideRound(1);
-        x.combineStart();
-        Check.add(x, 1, 2);
-        Check.add(x, 1, 3);
-        x.combineEnd();
-        for (int at = -3; at <= 3; at++) {
-            Check.moveTo(x, at);
-            Check.due("at " + at, x.evalSatisfied(), at == -1 || at == 0 ? CutRows.YES : CutRows.NO);
-        }
+        holdsFromMinusOneToZero("with cuts", x);
         CutRows none = new CutRows(1, 60, 4000);
         none.sealInput();
         none.combineStart();
         none.combineEnd();
         Check.moveTo(none, 7);
         Check.due("no input", none.evalSatisfied(), CutRows.YES);
+    }
+
+    private static void holdsFromMinusOneToZero(String what, CutRows x) {
+        for (int at = -3; at <= 3; at++) {
+            Check.moveTo(x, at);
+            Check.due(what + ", at " + at, x.evalSatisfied(), at == -1 || at == 0 ? CutRows.YES : CutRows.NO);
+        }
     }
 
     @Says(promise = 15, text = "hold at the point,")

@@ -572,12 +572,15 @@ public final class PromisesTest {
         dividedFullSizeIsDue(BigInteger.valueOf(6), BigInteger.valueOf(-9), most.negate());
     }
 
+    /** Building takes most of the calls that are promised, so one object is looked at and one divided. */
     private static void dividedFullSizeIsDue(BigInteger a, BigInteger b, BigInteger bound) {
+        CutRows built = new CutRows(2, 20, 4000);
+        int row = longRow(built, a, b, bound);
+        Check.due("10: first as built", Check.number(built, row, 0), a);
+        Check.due("10: second as built", Check.number(built, row, 1), b);
+        Check.due("10: bound as built", Check.number(built, row, 2), bound);
         CutRows x = new CutRows(2, 20, 4000);
-        int row = longRow(x, a, b, bound);
-        Check.due("10: first as built", Check.number(x, row, 0), a);
-        Check.due("10: second as built", Check.number(x, row, 1), b);
-        Check.due("10: bound as built", Check.number(x, row, 2), bound);
+        longRow(x, a, b, bound);
         BigInteger greatest = a.gcd(b);
         Check.due("10: new long row", x.divideRound(row), row + 1);
         Check.due("10: first, long", Check.number(x, row + 1, 0), a.divide(greatest));
@@ -774,16 +777,19 @@ public final class PromisesTest {
 
     private static void largeNumbersAtThePoint() {
         BigInteger most = Check.power(31 * 20).subtract(ONE);
+        Check.due("15: far above", atLargePoint(most, most), CutRows.NO);
+        Check.due("15: they cancel", atLargePoint(most.negate(), most.negate()), CutRows.YES);
+        Check.due("15: just at the bound", atLargePoint(most.negate(), most.negate().add(ONE)), CutRows.YES);
+        Check.due("15: just above it", atLargePoint(most.negate(), most.negate().add(BigInteger.TWO)), CutRows.NO);
+    }
+
+    /** An object for each point, since a few of them take all the calls that are promised. */
+    private static int atLargePoint(BigInteger odd, BigInteger last) {
+        BigInteger most = Check.power(31 * 20).subtract(ONE);
         CutRows x = new CutRows(6, 20, 900);
         Check.input(x, most, most, most, most, most, most, most);
-        moveTo(x, most, most, most, most, most, most);
-        Check.due("15: far above", x.evalSatisfied(), CutRows.NO);
-        moveTo(x, most, most.negate(), most, most.negate(), most, most.negate());
-        Check.due("15: they cancel", x.evalSatisfied(), CutRows.YES);
-        moveTo(x, most, most.negate(), most, most.negate(), most, most.negate().add(ONE));
-        Check.due("15: just at the bound", x.evalSatisfied(), CutRows.YES);
-        moveTo(x, most, most.negate(), most, most.negate(), most, most.negate().add(BigInteger.TWO));
-        Check.due("15: just above it", x.evalSatisfied(), CutRows.NO);
+        moveTo(x, most, odd, most, odd, most, last);
+        return x.evalSatisfied();
     }
 
     private static void promise16() {
