@@ -33,18 +33,11 @@ final class Check {
         }
     }
 
-    static void due(String what, String got, String want) {
-        done++;
-        if (!got.equals(want)) {
-            fails(what + " answered " + got + ", due is " + want);
-        }
-    }
-
     static void due(String what, boolean got, boolean want) {
         due(what, got ? 1 : 0, want ? 1 : 0);
     }
 
-    static void due(String what, BigInteger got, BigInteger want) {
+    static void due(String what, Object got, Object want) {
         done++;
         if (!got.equals(want)) {
             fails(what + " answered " + got + ", due is " + want);

@@ -218,8 +218,29 @@ final class Model {
         return 1;
     }
 
+    int rowCount() {
+        return rows.size();
+    }
+
+    int cell(int row, int entry, int what) {
+        if (row < 0 || row >= rows.size() || entry < 0 || entry > vars || what < -2) {
+            throw new IllegalArgumentException();
+        }
+        BigInteger number = rows.get(row)[entry];
+        if (what == -1) {
+            return number.signum();
+        }
+        if (what == -2) {
+            return limbsOf(number);
+        }
+        return what < limbsOf(number) ? number.abs().shiftRight(LIMB_BITS * what).intValue() & Integer.MAX_VALUE : 0;
+    }
+
     int count(int what) {
         int[] all = {cellsLeft(), inputs, vector.size(), sealed ? 1 : 0, sum != null ? 1 : 0, register};
+        if (what < 0 || what >= all.length) {
+            throw new IllegalArgumentException();
+        }
         return all[what];
     }
 }

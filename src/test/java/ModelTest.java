@@ -1,25 +1,34 @@
 import java.math.BigInteger;
+import java.util.function.Supplier;
 
 /**
- * Runs of calls drawn by a fixed rule, each answer and the state after it compared with the model.
- * With the looks at the state an object has more calls here than the 512 that are promised; this
- * class goes on to answer as before, which lets a run be looked at more closely.
+ * Runs of calls drawn by a fixed rule, each answer compared with the model's. An object has its 512
+ * promised calls here and none beyond, looks included: so each run is gone through several times,
+ * each time broken off elsewhere, and the calls that are left look at what it came to there.
  */
 public final class ModelTest {
     private static final int RUNS = 3000;
-    private static final int CALLS = 512;
+    private static final int PARTS = 4;
+    private static final int PROMISED = 512;
     private static final int[] EDGE_LIMBS = {0, 1, 2, 1 << 30, (1 << 30) - 1, Integer.MAX_VALUE, Integer.MAX_VALUE - 1};
+    private static final int CODES = 9;
 
     private final Draw draw;
+    private final Draw lookDraw;
     private final CutRows x;
     private final Model model;
     private final int kind;
     private final String name;
+    private final int breakOff;
+    private final int[] reached;
     private int calls = 0;
 
-    private ModelTest(int run) {
+    private ModelTest(int run, int part, int[] reached) {
+        name = "run " + run + ", part " + part;
+        this.reached = reached;
         draw = new Draw(run);
-        name = "run " + run;
+        lookDraw = new Draw(run * PARTS + part);
+        breakOff = (part * PROMISED + lookDraw.below(PROMISED)) / PARTS;
         kind = draw.below(4);
         int vars = 1 + draw.below(6);
         int rows = draw.below(3) == 0 ? 1 + draw.below(12) : 60;
@@ -34,46 +43,44 @@ public final class ModelTest {
     }
 
     public static void main(String[] args) {
-        int[] reached = new int[9];
+        int[] reached = new int[CODES];
         int refuted = 0;
         int longest = 0;
+        int spent = 0;
         for (int run = 0; run < RUNS; run++) {
-            ModelTest test = new ModelTest(run);
-            test.go(reached);
-            refuted += test.x.refuted() ? 1 : 0;
-            longest += test.hasLongest() ? 1 : 0;
+            for (int part = 0; part < PARTS; part++) {
+                ModelTest test = new ModelTest(run, part, reached);
+                test.go();
+                refuted += test.model.refuted() ? 1 : 0;
+                longest += test.hasLongest() ? 1 : 0;
+                spent = Math.max(spent, test.calls);
+            }
         }
         for (int code : new int[] {2, 3, 4, 5, 6, 7, 8}) {
             Check.due("some call answered " + -code, reached[code] > 0, true);
         }
         Check.due("some run was refuted", refuted > 0, true);
         Check.due("some run came to coefficients of 48 limbs", longest > 0, true);
+        Check.due("some run used all promised calls, and none more:", spent, PROMISED);
         Check.end();
     }
 
-    private void go(int[] reached) {
-        int inputs = draw.below(6);
+    private void go() {
+        // Long numbers take many calls to feed, and some are to be left for sums of them.
+        int inputs = kind < 2 ? draw.below(6) : 1 + draw.below(2);
         for (int i = 0; i < inputs; i++) {
             feedRow();
         }
         if (draw.below(10) != 0) {
-            Check.due(name + ": sealInput", x.sealInput(), model.sealInput());
-            calls++;
+            ask("sealInput", x::sealInput, model::sealInput);
         }
-        while (calls < CALLS) {
-            int before = x.rowCount();
-            int code = step();
-            if (code < 0) {
-                reached[-code]++;
-            }
-            compareState();
-            for (int row = before; row < x.rowCount(); row++) {
-                compareRow(row);
+        while (calls < breakOff) {
+            step();
+            if (lookDraw.below(3) == 0) {
+                glance();
             }
         }
-        for (int row = 0; row < x.rowCount(); row++) {
-            compareRow(row);
-        }
+        lookAtAll();
     }
 
     private boolean hasLongest() {
@@ -85,32 +92,76 @@ public final class ModelTest {
         return false;
     }
 
+    /** Neither of the two is called once the promised calls are used up. */
+    private void ask(String what, Supplier<Object> call, Supplier<Object> modelCall) {
+        if (calls == PROMISED) {
+            return;
+        }
+        calls++;
+        Object got = outcome(call);
+        Check.due(name + ", call " + calls + ": " + what, got, outcome(modelCall));
+        if (got instanceof Integer code && code < 0 && code > -CODES) {
+            reached[-code]++;
+        }
+    }
+
+    private static Object outcome(Supplier<Object> call) {
+        try {
+            return call.get();
+        } catch (RuntimeException e) {
+            return e.getClass().getName();
+        }
+    }
+
     private void feedRow() {
         BigInteger common = draw.below(2) == 0 ? drawNumber(6) : BigInteger.ONE;
         for (int i = 0; i <= model.vars; i++) {
             BigInteger number = drawNumber(common.bitLength() > 1 ? 14 : 20);
             feed(i < model.vars ? number.multiply(common) : number);
-            Check.due(name + ": endCoefficient", x.endCoefficient(), model.endCoefficient());
-            calls++;
+            ask("endCoefficient", x::endCoefficient, model::endCoefficient);
         }
-        Check.due(name + ": endConstraint", x.endConstraint(), model.endConstraint());
-        calls++;
+        ask("endConstraint", x::endConstraint, model::endConstraint);
     }
 
+    /** Now and then with a sign that is not the number's, or with limbs of 0 above. */
     private void feed(BigInteger number) {
-        int sign = number.signum();
-        Check.due(name + ": beginNumber", x.beginNumber(sign), model.beginNumber(sign));
-        calls++;
+        beginNumber(draw.below(8) == 0 ? draw.below(3) - 1 : number.signum());
         BigInteger rest = number.abs();
         while (rest.signum() != 0) {
             limb(rest.intValue() & Integer.MAX_VALUE);
             rest = rest.shiftRight(31);
         }
+        for (int zeros = draw.below(8) == 0 ? draw.below(4) : 0; zeros > 0; zeros--) {
+            limb(0);
+        }
+    }
+
+    private void beginNumber(int sign) {
+        ask("beginNumber " + sign, () -> x.beginNumber(sign), () -> model.beginNumber(sign));
     }
 
     private void limb(int w) {
-        Check.due(name + ": limb", x.limb(w), model.limb(w));
-        calls++;
+        ask("limb " + w, () -> x.limb(w), () -> model.limb(w));
+    }
+
+    private void evalPoint(int var) {
+        ask("evalPoint " + var, () -> x.evalPoint(var), () -> model.evalPoint(var));
+    }
+
+    private void combineAdd(int row) {
+        ask("combineAdd " + row, () -> x.combineAdd(row), () -> model.combineAdd(row));
+    }
+
+    private void divideRound(int row) {
+        ask("divideRound " + row, () -> x.divideRound(row), () -> model.divideRound(row));
+    }
+
+    private void cell(int row, int entry, int what) {
+        ask("cell " + row + " " + entry + " " + what, () -> x.cell(row, entry, what), () -> model.cell(row, entry, what));
+    }
+
+    private void count(int what) {
+        ask("count " + what, () -> x.count(what), () -> model.count(what));
     }
 
     private BigInteger drawNumber(int most) {
@@ -136,121 +187,114 @@ public final class ModelTest {
     }
 
     private int drawRow() {
+        int rows = model.rows.size();
         if (draw.below(20) == 0) {
-            return draw.below(2) == 0 ? draw.any() : x.rowCount();
+            return draw.below(2) == 0 ? draw.any() : rows;
         }
-        return draw.below(x.rowCount() + 1) - (draw.below(4) == 0 ? 1 : 0);
+        if (draw.below(3) == 0) {
+            return rows - 1;
+        }
+        return draw.below(rows + 1) - (draw.below(4) == 0 ? 1 : 0);
     }
 
-    private int step() {
+    private void step() {
         switch (draw.below(16)) {
-            case 0:
-                return stray();
-            case 1:
-            case 2:
-                Check.due(name + ": combineStart", x.combineStart(), model.combineStart());
-                calls++;
-                return 0;
-            case 3:
-                return answered("combineEnd", x.combineEnd(), model.combineEnd());
-            case 4:
-            case 5:
-                int row = drawRow();
-                return answered("divideRound " + row, x.divideRound(row), model.divideRound(row));
-            case 6:
-                return lookAtPoint();
-            case 7:
-                return repeatAdd();
-            default:
-                return addOnce();
+            case 0 -> stray();
+            case 1, 2 -> ask("combineStart", x::combineStart, model::combineStart);
+            case 3 -> ask("combineEnd", x::combineEnd, model::combineEnd);
+            case 4, 5 -> divideRound(drawRow());
+            case 6 -> lookAtPoint();
+            case 7 -> combineAdd(drawRow());
+            case 8, 9, 10 -> sumUp();
+            default -> addOnce(draw.below(3) == 0);
         }
     }
 
-    private int answered(String what, int got, int want) {
-        Check.due(name + ": " + what, got, want);
-        calls++;
-        return got;
-    }
-
-    private int stray() {
-        int what = draw.below(8);
-        if (what == 0) {
-            feedRow();
-            return 0;
+    /** A whole sum at once, since steps drawn one by one seldom come to one of long numbers. */
+    private void sumUp() {
+        ask("combineStart", x::combineStart, model::combineStart);
+        for (int rows = 1 + draw.below(2); rows > 0; rows--) {
+            addOnce(draw.below(4) != 0);
         }
-        calls++;
-        switch (what) {
-            case 1:
-                int sign = draw.below(2) == 0 ? draw.any() : draw.below(5) - 2;
-                Check.due(name + ": beginNumber " + sign, x.beginNumber(sign), model.beginNumber(sign));
-                return 0;
-            case 2:
-                int w = draw.any();
-                Check.due(name + ": limb " + w, x.limb(w), model.limb(w));
-                return 0;
-            case 3:
-                Check.due(name + ": endCoefficient", x.endCoefficient(), model.endCoefficient());
-                return 0;
-            case 4:
-                return answered("endConstraint", x.endConstraint(), model.endConstraint());
-            case 5:
-                Check.due(name + ": sealInput", x.sealInput(), model.sealInput());
-                return 0;
-            case 6:
-                Check.due(name + ": evalStart", x.evalStart(), model.evalStart());
-                return 0;
-            default:
-                int var = draw.below(8) - 1;
-                Check.due(name + ": evalPoint " + var, x.evalPoint(var), model.evalPoint(var));
-                return 0;
+        ask("combineEnd", x::combineEnd, model::combineEnd);
+        if (draw.below(2) == 0) {
+            divideRound(model.rows.size() - 1);
         }
     }
 
-    private int lookAtPoint() {
+    private void stray() {
+        switch (draw.below(8)) {
+            case 0 -> feedRow();
+            case 1 -> beginNumber(draw.below(2) == 0 ? draw.any() : draw.below(5) - 2);
+            case 2 -> limb(draw.any());
+            case 3 -> ask("endCoefficient", x::endCoefficient, model::endCoefficient);
+            case 4 -> ask("endConstraint", x::endConstraint, model::endConstraint);
+            case 5 -> ask("sealInput", x::sealInput, model::sealInput);
+            case 6 -> ask("evalStart", x::evalStart, model::evalStart);
+            default -> evalPoint(draw.below(8) - 1);
+        }
+    }
+
+    private void lookAtPoint() {
         int var = draw.below(model.vars);
         feed(drawNumber(20));
-        Check.due(name + ": evalPoint", x.evalPoint(var), model.evalPoint(var));
-        calls++;
-        return answered("evalSatisfied", x.evalSatisfied(), model.evalSatisfied());
+        evalPoint(var);
+        ask("evalSatisfied", x::evalSatisfied, model::evalSatisfied);
     }
 
-    private int addOnce() {
+    private void addOnce(boolean upToTheTop) {
         int row = drawRow();
-        BigInteger times = draw.below(3) == 0 ? drawUpToTheTop(row) : drawNumber(20);
+        BigInteger times = upToTheTop ? drawUpToTheTop(row) : drawNumber(20);
         feed(draw.below(5) == 0 ? times : times.abs());
-        return answered("combineAdd " + row, x.combineAdd(row), model.combineAdd(row));
+        combineAdd(row);
     }
 
     /** A number that makes the row's longest number about as long as a sum's may be. */
     private BigInteger drawUpToTheTop(int row) {
         int longest = 0;
-        for (int entry = 0; row >= 0 && row < x.rowCount() && entry <= model.vars; entry++) {
+        for (int entry = 0; row >= 0 && row < model.rows.size() && entry <= model.vars; entry++) {
             longest = Math.max(longest, Model.limbsOf(model.rows.get(row)[entry]));
         }
         int limbs = Math.min(20, Math.max(1, 48 - longest + draw.below(2)));
         return BigInteger.valueOf(drawLimb()).shiftLeft(31 * (limbs - 1)).add(drawNumber(limbs).abs());
     }
 
-    private int repeatAdd() {
-        int row = drawRow();
-        return answered("combineAdd " + row, x.combineAdd(row), model.combineAdd(row));
-    }
-
-    private void compareState() {
-        for (int what = 0; what <= 5; what++) {
-            Check.due(name + ", call " + calls + ": count " + what, x.count(what), model.count(what));
+    private void glance() {
+        switch (lookDraw.below(6)) {
+            case 0 -> ask("rowCount", x::rowCount, model::rowCount);
+            case 1 -> ask("refuted", x::refuted, model::refuted);
+            case 2 -> ask("evalSatisfied", x::evalSatisfied, model::evalSatisfied);
+            case 3 -> glanceAtNumber();
+            case 4 -> count(lookDraw.below(8) - 1);
+            default -> count(0);
         }
-        Check.due(name + ", call " + calls + ": rowCount", x.rowCount(), model.rows.size());
-        Check.due(name + ", call " + calls + ": refuted", x.refuted(), model.refuted());
-        Check.due(name + ", call " + calls + ": evalSatisfied", x.evalSatisfied(), model.evalSatisfied());
     }
 
-    private void compareRow(int row) {
-        for (int entry = 0; entry <= model.vars; entry++) {
-            BigInteger want = model.rows.get(row)[entry];
-            Check.due(name + ": row " + row + ", entry " + entry, Check.number(x, row, entry), want);
-            Check.due(name + ": sign", x.cell(row, entry, -1), want.signum());
-            Check.due(name + ": size", x.cell(row, entry, -2), Model.limbsOf(want));
+    private void glanceAtNumber() {
+        int row = lookDraw.below(model.rows.size() + 2) - 1;
+        int entry = lookDraw.below(model.vars + 3) - 1;
+        cell(row, entry, lookDraw.below(53) - 4);
+    }
+
+    /** The newest rows first, since the calls that are left may be too few for all of them. */
+    private void lookAtAll() {
+        for (int what = 0; what <= 5; what++) {
+            count(what);
+        }
+        ask("rowCount", x::rowCount, model::rowCount);
+        ask("refuted", x::refuted, model::refuted);
+        ask("evalSatisfied", x::evalSatisfied, model::evalSatisfied);
+        for (int row = model.rows.size() - 1; row >= 0 && calls < PROMISED; row--) {
+            for (int entry = 0; entry <= model.vars; entry++) {
+                lookAtNumber(row, entry);
+            }
+        }
+    }
+
+    private void lookAtNumber(int row, int entry) {
+        int size = Model.limbsOf(model.rows.get(row)[entry]);
+        for (int what = -2; what <= size; what++) {
+            cell(row, entry, what);
         }
     }
 
